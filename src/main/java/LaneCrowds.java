@@ -535,14 +535,15 @@ public final class LaneCrowds {
         private boolean isSeen(Patrol patrol, Crowd one) {
             int farX = Math.abs(one.place % WIDTH - patrol.place % WIDTH);
             int farY = Math.abs(one.place / WIDTH - patrol.place / WIDTH);
+            int far = farX + farY;
             int sight = one.burns ? SIGHT_BY_TORCH : SIGHT_IN_THE_DARK;
-            if (one.isScattered() || (farX > 0 && farY > 0) || farX + farY > sight) {
+            if (one.isScattered() || (farX > 0 && farY > 0) || far > sight) {
                 return false;
             }
+            int first = Math.min(one.place, patrol.place);
             int stride = farY == 0 ? 1 : WIDTH;
-            int last = Math.max(one.place, patrol.place);
-            for (int i = Math.min(one.place, patrol.place) + stride; i < last; i += stride) {
-                if (!quarter.isFree(i)) {
+            for (int i = 1; i < far; i++) {
+                if (!quarter.isFree(first + i * stride)) {
                     return false;
                 }
             }

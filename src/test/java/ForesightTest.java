@@ -7,6 +7,7 @@ public final class ForesightTest {
 
     public static void main(String[] args) {
         foreseen();
+        foreseenPatrols();
         foreseenOutside();
         advised();
         advisedToPush();
@@ -52,6 +53,24 @@ public final class ForesightTest {
             checks.same("foresee(" + steps + ", 1)", barricades, x.count(2));
             checks.same("foresee(" + steps + ", 2)", shuts, x.shuts());
         }
+    }
+
+    /** Steps 3 to 10 of a patrol that goes right, right, down; then what is new is foreseen, too. */
+    private static void foreseenPatrols() {
+        LaneCrowds x = new LaneCrowds();
+        x.patrol(0, 0, 3, 1 + 4 * 1 + 16 * 2);
+        x.gather(7, 2, 9);
+        x.pass(2);
+        int[] people = {9, 9, 9, 8, 7, 6, 6, 5};
+        for (int i = 0; i < people.length; i++) {
+            checks.same("people behind " + (i + 1), x.foresee(i + 1, 0), people[i]);
+        }
+        x.gather(0, 8, 2);
+        checks.same("a new crowd", x.foresee(1, 0), 11);
+        x.patrol(7, 6, 1, 0);
+        checks.same("a new patrol", x.foresee(1, 0), 10);
+        x.torch(0);
+        checks.same("a torch that is out", x.foresee(1, 0), 11);
     }
 
     private static void foreseenOutside() {

@@ -4,6 +4,7 @@ public final class TellingTest {
 
     public static void main(String[] args) {
         counts();
+        countsOfTheFirstCell();
         countsOutside();
         means();
         digestOfANewObject();
@@ -21,7 +22,7 @@ public final class TellingTest {
         x.gather(8, 2, 6);
         x.gather(8, 3, 9);
         x.patrol(5, 6, 2, 2 + 4);
-        x.patrol(0, 8, 1, 3);
+        x.patrol(10, 8, 2, 3);
         x.order(0, 3);
         x.order(0, 4);
         x.order(1, 8);
@@ -35,32 +36,25 @@ public final class TellingTest {
         LaneCrowds x = night();
         int[] before = {0, 2, 5, 104, 3, 16, 2, 0};
         int[] behindOne = {1, 2, 5, 104, 3, 16, 2, 1};
-        int[] behindThree = {3, 2, 5, 104, 2, 15, 2, 3};
         counts(x, before);
         x.pass(1);
         counts(x, behindOne);
-        x.block(3, 5, 0);
-        x.order(0, 2);
+        x.block(0, 1, 1);
+        x.block(11, 7, 1);
+        int[] withTwoMore = {1, 2, 7, 102, 3, 16, 2, 1};
+        counts(x, withTwoMore);
         x.pass(2);
-        checks.same("the first one's orders", x.crowd(0, 4), x.crowd(0, 2) == 0 ? x.crowd(0, 4) : 0);
-        int[] got = new int[8];
-        for (int what = 0; what < 8; what++) {
-            got[what] = x.count(what);
-        }
-        checks.same("count(0)", got[0], behindThree[0]);
-        checks.same("count(1)", got[1], behindThree[1]);
-        checks.same("count(6)", got[6], behindThree[6]);
-        int alive = 0;
-        int people = 0;
-        int missed = 0;
-        for (int i = 0; i < 3; i++) {
-            alive += x.crowd(i, 2) > 0 ? 1 : 0;
-            people += x.crowd(i, 2);
-            missed += x.crowd(i, 6);
-        }
-        checks.same("count(4)", got[4], alive);
-        checks.same("count(5)", got[5], people);
-        checks.same("count(7)", got[7], missed);
+        int[] behindThree = {3, 2, 7, 102, 3, 15, 2, 4};
+        counts(x, behindThree);
+    }
+
+    private static void countsOfTheFirstCell() {
+        LaneCrowds x = new LaneCrowds();
+        x.block(0, 0, 1);
+        counts(x, new int[] {0, 0, 1, 107, 0, 0, 0, 0});
+        x.block(0, 0, 0);
+        x.house(0, 0);
+        counts(x, new int[] {0, 1, 0, 107, 0, 0, 0, 0});
     }
 
     private static void counts(LaneCrowds x, int[] due) {
