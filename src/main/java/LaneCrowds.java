@@ -484,26 +484,25 @@ public final class LaneCrowds {
         private boolean tryOrder(Crowd one, int kind, int direction) {
             int place = Quarter.next(one.place, direction);
             switch (kind) {
-                case 0: break;
+                case 0: return tryGo(one, place, Quarter.next(place, direction));
                 case 1: return tryRaise(one, place);
                 default: return tryPullDown(place);
             }
-            if (!quarter.isFree(place) && !tryPush(one, place, Quarter.next(place, direction))) {
-                return false;
-            }
-            one.place = place;
-            return true;
         }
 
-        private boolean tryPush(Crowd one, int place, int behind) {
+        private boolean tryGo(Crowd one, int place, int behind) {
             int load = quarter.at(place);
             int there = quarter.at(behind);
-            if (load == HOUSE || one.people < 2 * load
-                    || there == HOUSE || there > MOST_BARRICADES - load || isTaken(behind)) {
+            boolean pushes = load > 0 && one.people >= 2 * load
+                    && there != HOUSE && there <= MOST_BARRICADES - load && !isTaken(behind);
+            if (load != 0 && !pushes) {
                 return false;
             }
-            quarter.put(place, 0);
-            quarter.put(behind, there + load);
+            if (pushes) {
+                quarter.put(place, 0);
+                quarter.put(behind, there + load);
+            }
+            one.place = place;
             return true;
         }
 
@@ -543,7 +542,7 @@ public final class LaneCrowds {
             int first = Math.min(one.place, patrol.place);
             int stride = farY == 0 ? 1 : WIDTH;
             for (int i = 1; i < far; i++) {
-                if (!quarter.isFree(first + i * stride)) {
+                if (quarter.at(first + i * stride) != 0) {
                     return false;
                 }
             }
